@@ -1533,7 +1533,7 @@ public final class NumberHouse {
             if (length == 0 || length + power < -FAR_BITS) {
                 return 0;
             }
-            if (length + power > FAR_BITS) {
+            if (length + power - fractionBits - 1 >= topExponent - bias) {
                 return infinity();
             }
             int lowest = (int) Math.max(length + power - fractionBits - 1, 1 - bias);
@@ -1547,7 +1547,7 @@ public final class NumberHouse {
             if (half && (rest || (kept & 1) == 1)) {
                 kept++;
             }
-            return Math.min(((long) (lowest + bias - 1) << fractionBits) + kept, infinity());
+            return ((long) (lowest + bias - 1) << fractionBits) + kept;
         }
 
         long nearestDecimal(Big size, long scale) {

@@ -1,0 +1,172 @@
+import java.math.BigDecimal;
+import java.math.BigInteger;
+
+/** What the tests share: a NumberHouse with texts in and out, and the count of wrong answers. */
+final class House {
+    static final int ILLEGAL_ARGUMENT = 1;
+    static final int ARITHMETIC = 2;
+    static final int ILLEGAL_STATE = 3;
+
+    private static int checks = 0;
+    private static int wrong = 0;
+
+    final NumberHouse x = new NumberHouse();
+
+    /** A call that may throw. */
+    interface Call {
+        void run();
+    }
+
+    static void due(String what, Object got, Object want) {
+        checks++;
+        if (!String.valueOf(want).equals(String.valueOf(got))) {
+            wrong++;
+            if (wrong <= 40) {
+                System.out.println(cut(what) + " answered " + cut(got) + ", due is " + cut(want));
+            }
+        }
+    }
+
+    private static String cut(Object what) {
+        String text = String.valueOf(what);
+        return text.length() <= 200 ? text : text.substring(0, 190) + " (" + text.length() + ")";
+    }
+
+    static void end() {
+        System.out.println(checks + " checks, " + wrong + " wrong");
+        if (wrong != 0 || checks == 0) {
+            System.exit(1);
+        }
+    }
+
+    static int thrown(Call call) {
+        try {
+            call.run();
+        } catch (IllegalArgumentException e) {
+            return ILLEGAL_ARGUMENT;
+        } catch (ArithmeticException e) {
+            return ARITHMETIC;
+        } catch (IllegalStateException e) {
+            return ILLEGAL_STATE;
+        }
+        return 0;
+    }
+
+    /** The call must throw this, and change nothing that can be seen without changing it. */
+    void refuses(String what, int exception, Call call) {
+        String before = state();
+        due(what + " throws", thrown(call), exception);
+        due(what + " changes nothing", state(), before);
+    }
+
+    /** All registers and the paper, and how much the tape has; the tape's bytes stay, for it is fed again. */
+    String state() {
+        StringBuilder all = new StringBuilder();
+        for (int i = 0; i < 11008; i += 8) {
+            long cell = x.paperAt(i);
+            if (cell != 0) {
+                all.append(i).append(':').append(cell).append(' ');
+            }
+        }
+        for (int a = 0; a < 10; a++) {
+            for (int what = 0; what < 5; what++) {
+                all.append(x.told(0, a, what)).append(' ');
+            }
+            long precision = x.told(1, a, 2);
+            all.append(x.told(1, a, 0)).append(' ').append(x.told(1, a, 1)).append(' ');
+            for (int i = 0; i < precision; i++) {
+                all.append(x.told(1, a, 3 + i));
+            }
+            all.append(' ').append(x.told(2, a, 0)).append(' ').append(x.told(3, a, 0)).append(';');
+        }
+        int size = x.feed(1, 'x');
+        all.append("tape ").append(size);
+        return all.append(size == NumberHouse.NONE ? "" : restoreTape(size - 1)).toString();
+    }
+
+    private String fed = "";
+
+    private String restoreTape(int size) {
+        x.wipe();
+        if (size == fed.length()) {
+            feed(fed);
+            return "";
+        }
+        fed = "";
+        return " used";
+    }
+
+    /** The tape has this text alone then. */
+    void tape(String text) {
+        x.wipe();
+        fed = "";
+        feed(text);
+        fed = text;
+    }
+
+    private void feed(String text) {
+        for (int i = 0; i < text.length(); i += 8) {
+            int n = Math.min(8, text.length() - i);
+            long bytes = 0;
+            for (int k = 0; k < n; k++) {
+                bytes |= (long) (text.charAt(i + k) & 255) << (8 * k);
+            }
+            x.feed(n, bytes);
+        }
+    }
+
+    String paper(int length) {
+        StringBuilder text = new StringBuilder();
+        for (int i = 0; i < length; i += 8) {
+            long cell = x.paperAt(i);
+            for (int k = 0; k < 8 && i + k < length; k++) {
+                text.append((char) (cell >>> (8 * k) & 255));
+            }
+        }
+        return x.paperAt(length) == 0 ? text.toString() : text + " and more";
+    }
+
+    boolean reads(int kind, int to, int base, String text) {
+        tape(text);
+        return x.read(kind, to, base);
+    }
+
+    String printed(int kind, int a, int style) {
+        return paper(x.print(kind, a, style));
+    }
+
+    /** What the format prints, or its fault. */
+    String formatted(String format) {
+        tape(format);
+        int answer = x.format();
+        return answer >= 0 ? paper(answer) : String.valueOf(answer);
+    }
+
+    void setWhole(int to, BigInteger value) {
+        if (!reads(0, to, 36, value.toString(36))) {
+            throw new RuntimeException("a whole is not read");
+        }
+    }
+
+    BigInteger getWhole(int a) {
+        return new BigInteger(printed(0, a, 32), 32);
+    }
+
+    void setDecimal(int to, BigDecimal value) {
+        if (!reads(1, to, 10, value.unscaledValue() + "E" + -(long) value.scale())) {
+            throw new RuntimeException("a decimal is not read");
+        }
+    }
+
+    BigDecimal getDecimal(int a) {
+        return new BigDecimal(printed(1, a, 0));
+    }
+
+    static BigInteger two(int power) {
+        return BigInteger.ONE.shiftLeft(power);
+    }
+
+    static BigInteger ten(int power) {
+        return BigInteger.TEN.pow(power);
+    }
+}
