@@ -184,7 +184,12 @@ public final class NumberHouse {
     public void powerModulo(int a, int e, int m, int to) throws IllegalArgumentException, ArithmeticException {
         need(isRegister(a) && isRegister(e) && isRegister(m) && isRegister(to));
         canHave(wholes[m].sign() > 0);
-        canHave(mill.powerBelow(wholes[a], wholes[e], wholes[m]));
+        if (wholes[e].negative) {
+            canHave(mill.inverse(wholes[a], wholes[m]));
+        } else {
+            mill.modulo(wholes[a], wholes[m], mill.number);
+        }
+        mill.powerBelow(wholes[e], wholes[m]);
         keepWhole(to);
     }
 
@@ -478,7 +483,10 @@ public final class NumberHouse {
 
         /** Bytes beyond the room are counted, not kept: who asks only how long a text is needs no more. */
         void add(int value) {
-            replace(size, value);
+            if (size < room) {
+                int shift = 8 * (size & 7);
+                cells[size >> 3] = cells[size >> 3] & ~(255L << shift) | (long) (value & 255) << shift;
+            }
             size++;
         }
 
@@ -494,14 +502,16 @@ public final class NumberHouse {
             }
         }
 
-        void addCount(long count, int leastFigures) {
-            int from = size;
-            long left = count;
-            for (int i = 0; i < 20 && (left > 0 || i < leastFigures); i++) {
-                add('0' + (int) (left % 10));
-                left /= 10;
+        /** A power of 10, none of which has more than five figures here. */
+        void addPower(int power, int leastFigures) {
+            int above = Math.abs(power);
+            int unit = 10000;
+            for (int i = 5; i > 0; i--) {
+                if (i <= leastFigures || above >= unit) {
+                    add('0' + above / unit % 10);
+                }
+                unit = Math.max(unit / 10, 1);
             }
-            turn(from);
         }
 
         /** What was written from its last figure on stands in its order then. */
@@ -524,8 +534,7 @@ public final class NumberHouse {
 
         void replace(int place, int value) {
             if (place >= 0 && place < room) {
-                int shift = 8 * (place & 7);
-                cells[place >> 3] = cells[place >> 3] & ~(255L << shift) | (long) (value & 255) << shift;
+                cells[place >> 3] ^= (long) (at(place) ^ value & 255) << 8 * (place & 7);
             }
         }
 
@@ -737,6 +746,7 @@ public final class NumberHouse {
             trim();
         }
 
+        /** The factor is above 0. */
         void multiplySmall(int factor, int plus) {
             long carry = plus;
             for (int i = 0; i < size; i++) {
@@ -744,10 +754,10 @@ public final class NumberHouse {
                 limbs[i] = (int) (part & MASK);
                 carry = part >>> LIMB;
             }
-            if (carry != 0) {
-                push((int) carry);
+            if (carry != 0 && size < limbs.length) {
+                limbs[size] = (int) carry;
+                size++;
             }
-            trim();
         }
 
         int divideSmall(int divisor) {
@@ -1010,29 +1020,21 @@ public final class NumberHouse {
             return high.isOne();
         }
 
-        boolean powerBelow(Big a, Big e, Big m) {
-            if (e.negative) {
-                if (!inverse(a, m)) {
-                    return false;
-                }
-                one.copy(number);
-            } else {
-                modulo(a, m, one);
-            }
-            two.setLong(1);
-            modulo(two, m, power);
+        /** The number, which is below m, to the size of e, modulo m. */
+        void powerBelow(Big e, Big m) {
+            power.setLong(1);
+            power.divideBy(m, quotient);
             for (int i = e.bitLength() - 1; i >= 0; i--) {
                 work.product(power, power);
                 work.divideBy(m, quotient);
                 if (e.bit(i) == 1) {
-                    power.product(work, one);
+                    power.product(work, number);
                     power.divideBy(m, quotient);
                 } else {
                     power.copy(work);
                 }
             }
             number.copy(power);
-            return true;
         }
 
         /** The power comes in power; false as soon as it has more bits than it may. */
@@ -1057,8 +1059,8 @@ public final class NumberHouse {
 
         /** Newton's steps fall from above to the root, so the first that does not fall ends them. */
         void root(Big a, int n) {
-            root.clear();
-            if (a.size == 0) {
+            root.copy(a);
+            if (a.size == 0 || n == 1) {
                 return;
             }
             root.setLong(1);
@@ -1742,7 +1744,7 @@ public final class NumberHouse {
                 bits = floats.infinity() | sign;
                 return READ;
             }
-            boolean hexadecimal = here() == '0' && (byteAt(place + 1) | 32) == 'x';
+            boolean hexadecimal = takeHexadecimalMark();
             if (!(hexadecimal ? takeHexadecimal() : takeDecimal()) || !takeEnding()) {
                 return NO_TEXT;
             }
@@ -1754,8 +1756,13 @@ public final class NumberHouse {
             return READ;
         }
 
+        private boolean takeHexadecimalMark() {
+            boolean marked = end - place >= 2 && tape.at(place) == '0' && (tape.at(place + 1) | 32) == 'x';
+            place += marked ? 2 : 0;
+            return marked;
+        }
+
         private boolean takeHexadecimal() {
-            place += 2;
             return takeFigures(16, FLOAT_HEX_FIGURES) && (here() | 32) == 'p' && takeExponent(TAPE_ROOM);
         }
 
@@ -1867,11 +1874,7 @@ public final class NumberHouse {
         }
 
         private int here() {
-            return byteAt(place);
-        }
-
-        private int byteAt(int at) {
-            return at < end ? tape.at(at) : -1;
+            return place < end ? tape.at(place) : -1;
         }
 
         private int digitHere() {
@@ -2004,7 +2007,7 @@ public final class NumberHouse {
             writeHead(sheet, all, alwaysPoint);
             sheet.add('e');
             sheet.add(power < 0 ? '-' : '+');
-            sheet.addCount(Math.abs(power), 2);
+            sheet.addPower(power, 2);
         }
 
         void writeHead(Sheet sheet, int all, boolean alwaysPoint) {
@@ -2012,11 +2015,17 @@ public final class NumberHouse {
             if (all > 1 || alwaysPoint) {
                 sheet.add('.');
             }
-            writeFrom(sheet, 1, all);
+            for (int i = 1; i < all; i++) {
+                sheet.add('0' + figure(i));
+            }
         }
 
-        void writeFrom(Sheet sheet, int from, int to) {
-            for (int i = from; i < to; i++) {
+        /** So many in all, and so many of them before the point. */
+        void writeSplit(Sheet sheet, int before, int all) {
+            for (int i = 0; i < Math.max(before, all); i++) {
+                if (i == before) {
+                    sheet.add('.');
+                }
                 sheet.add('0' + figure(i));
             }
         }
@@ -2081,11 +2090,7 @@ public final class NumberHouse {
             int power = zero ? -3 * Math.floorDiv(-top, 3) : 3 * Math.floorDiv(top, 3);
             int before = zero ? 1 : top - power + 1;
             int all = zero ? 1 + power - top : figureCount;
-            digits.writeFrom(paper, 0, before);
-            if (all > before) {
-                paper.add('.');
-                digits.writeFrom(paper, before, all);
-            }
+            digits.writeSplit(paper, before, all);
             if (power != 0) {
                 writePower(power);
             }
@@ -2094,7 +2099,7 @@ public final class NumberHouse {
         private void writePower(int power) {
             paper.add('E');
             paper.add(power < 0 ? '-' : '+');
-            paper.addCount(Math.abs(power), 1);
+            paper.addPower(power, 1);
         }
 
         void floatText(Floats floats, long bits, boolean hexadecimal) {
@@ -2140,7 +2145,7 @@ public final class NumberHouse {
             if (power < 0) {
                 paper.add('-');
             }
-            paper.addCount(Math.abs(power), 1);
+            paper.addPower(power, 1);
         }
 
         void exactText(Floats floats, long bits, boolean scientific, int n, int way) {
@@ -2195,18 +2200,25 @@ public final class NumberHouse {
             takeFlags();
             width = figureAt(place) > 0 ? takeNumber() : NONE;
             precision = NONE;
-            if (byteAt(place) == '.' && figureAt(place + 1) >= 0) {
+            if (text.at(place) == '.' && figureAt(place + 1) >= 0) {
                 place++;
                 precision = takeNumber();
             }
-            conversion = byteAt(place);
+            conversion = place < text.size ? text.at(place) : NONE;
             place++;
+        }
+
+        /** What is no part of a directive is printed as by one without width and flags. */
+        void setPlain() {
+            flags = 0;
+            width = NONE;
+            conversion = NONE;
         }
 
         private void takeIndex() {
             int from = place;
             index = figureAt(place) > 0 ? takeNumber() : NONE;
-            if (index != NONE && byteAt(place) == '$') {
+            if (index != NONE && text.at(place) == '$') {
                 place++;
             } else {
                 index = NONE;
@@ -2216,7 +2228,7 @@ public final class NumberHouse {
 
         private void takeFlags() {
             for (; place < text.size; place++) {
-                int which = FLAGS.indexOf((char) byteAt(place));
+                int which = FLAGS.indexOf((char) text.at(place));
                 if (which < 0) {
                     return;
                 }
@@ -2234,12 +2246,8 @@ public final class NumberHouse {
         }
 
         private int figureAt(int at) {
-            int c = byteAt(at);
+            int c = text.at(at);
             return c >= '0' && c <= '9' ? c - '0' : -1;
-        }
-
-        private int byteAt(int at) {
-            return at < text.size ? text.at(at) : -1;
         }
 
         boolean has(int flag) {
@@ -2359,52 +2367,46 @@ public final class NumberHouse {
             last = NONE;
             int place = 0;
             for (int turn = 0; turn <= FORMAT_ROOM && place < format.size; turn++) {
-                int fault = 0;
+                body.clear();
+                zerosAt = NONE;
                 int next = place + 1;
+                int fault = 0;
                 if (format.at(place) == '%') {
-                    fault = obey(format, place, paper);
+                    directive.parse(format, place);
                     next = directive.place;
+                    fault = findFault();
+                    if (fault == 0) {
+                        writeBody();
+                    }
                 } else {
-                    paper.add(format.at(place));
+                    directive.setPlain();
+                    body.add(format.at(place));
                 }
-                if (fault == 0 && paper.size > MOST_PRINTED) {
+                if (fault == 0 && paper.size + Math.max(body.size, directive.width) > MOST_PRINTED) {
                     fault = 12;
                 }
                 if (fault != 0) {
                     paper.clear();
                     return -1000 * fault - place;
                 }
+                widen(paper);
                 place = next;
             }
             return paper.size;
         }
 
-        private int obey(Sheet format, int place, Sheet paper) {
-            directive.parse(format, place);
+        /** Chooses the argument, too: last is the one that the directive has. */
+        private int findFault() {
             int fault = directive.fault();
-            if (fault != 0) {
+            if (fault != 0 || directive.isOneOf("%n")) {
                 return fault;
             }
-            body.clear();
-            zerosAt = NONE;
-            if (directive.isOneOf("%n")) {
-                body.add(directive.conversion == 'n' ? 10 : '%');
-            } else {
-                int which = chooseArgument();
-                if (which < 0 || which >= count) {
-                    return 9;
-                }
-                if (!takesKind(kinds[which])) {
-                    return 10;
-                }
-                last = which;
-                writeBody(which);
+            int which = chooseArgument();
+            if (which < 0 || which >= count) {
+                return 9;
             }
-            if (paper.size + Math.max(body.size, directive.width) > MOST_PRINTED) {
-                return 12;
-            }
-            widen(paper);
-            return 0;
+            last = which;
+            return takesKind(kinds[which]) ? 0 : 10;
         }
 
         private int chooseArgument() {
@@ -2428,22 +2430,32 @@ public final class NumberHouse {
             return kind == (directive.isOneOf("doxX") ? WHOLE : DECIMAL);
         }
 
-        private void writeBody(int which) {
+        private void writeBody() {
+            if (directive.isOneOf("%n")) {
+                body.add(directive.conversion == 'n' ? 10 : '%');
+                return;
+            }
+            int kind = kinds[last];
             if (directive.isOneOf("bB")) {
-                boolean no = kinds[which] == NOTHING || kinds[which] == TRUTH && numbers[which] == 0;
+                boolean no = kind == NOTHING || kind == TRUTH && numbers[last] == 0;
                 body.addText(no ? "false" : "true");
                 cutBody();
             } else if (directive.isOneOf("sS")) {
-                writeAnything(which);
+                writeAnything(last);
                 cutBody();
-            } else if (kinds[which] == NOTHING) {
+            } else if (kind == NOTHING) {
                 body.addText("null");
-            } else if (directive.isOneOf("cC")) {
-                body.add((int) numbers[which]);
+            } else if (kind == CHARACTER) {
+                body.add((int) numbers[last]);
             } else if (directive.isOneOf("oxX")) {
-                writeToBase(numbers[which]);
+                writeToBase(numbers[last]);
             } else {
-                writeSigned(which);
+                writeSign(numbers[last] < 0);
+                digits.fillLong(Math.abs(numbers[last]), scales[last]);
+                writeNumber();
+                if (numbers[last] < 0 && directive.has(Directive.BRACKET)) {
+                    body.add(')');
+                }
             }
         }
 
@@ -2489,47 +2501,38 @@ public final class NumberHouse {
             }
         }
 
-        private void writeSigned(int which) {
-            boolean negative = numbers[which] < 0;
-            boolean brackets = negative && directive.has(Directive.BRACKET);
+        private void writeSign(boolean negative) {
             if (negative) {
-                body.add(brackets ? '(' : '-');
+                body.add(directive.has(Directive.BRACKET) ? '(' : '-');
             } else if (directive.has(Directive.PLUS)) {
                 body.add('+');
             } else if (directive.has(Directive.BLANK)) {
                 body.add(' ');
             }
             zerosAt = body.size;
-            digits.fillLong(Math.abs(numbers[which]), scales[which]);
-            writeNumber();
-            if (brackets) {
-                body.add(')');
-            }
         }
 
+        /** g is f or e, with what its precision comes to, of the number that is rounded already. */
         private void writeNumber() {
-            boolean commas = directive.has(Directive.COMMA);
-            boolean point = directive.has(Directive.SHARP);
+            int way = directive.isLarge() ? directive.conversion + 32 : directive.conversion;
             int precision = directive.precision == NONE ? 6 : directive.precision;
-            if (directive.conversion == 'd') {
-                digits.writePlain(body, 0, commas, false);
-            } else if (directive.conversion == 'f') {
+            if (way == 'd') {
+                way = 'f';
+                precision = 0;
+            } else if (way == 'g') {
+                int all = Math.max(precision, 1);
+                digits.round(all, HALF_OUTWARDS);
+                boolean plain = digits.power >= -4 && digits.power < all;
+                way = plain ? 'f' : 'e';
+                precision = plain ? all - 1 - digits.power : all - 1;
+            }
+            boolean point = directive.has(Directive.SHARP);
+            if (way == 'f') {
                 digits.round(digits.power + 1 + precision, HALF_OUTWARDS);
-                digits.writePlain(body, precision, commas, point);
-            } else if (directive.isOneOf("eE")) {
+                digits.writePlain(body, precision, directive.has(Directive.COMMA), point);
+            } else {
                 digits.round(precision + 1, HALF_OUTWARDS);
                 digits.writeScience(body, precision + 1, point);
-            } else {
-                writeGeneral(Math.max(precision, 1), commas);
-            }
-        }
-
-        private void writeGeneral(int precision, boolean commas) {
-            digits.round(precision, HALF_OUTWARDS);
-            if (digits.power >= -4 && digits.power < precision) {
-                digits.writePlain(body, precision - 1 - digits.power, commas, false);
-            } else {
-                digits.writeScience(body, precision, false);
             }
         }
 
