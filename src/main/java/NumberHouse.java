@@ -1311,9 +1311,6 @@ public final class NumberHouse {
                 lost |= mill.number.dropFigures(1);
                 scale--;
             }
-            if (precision == 0 && wish > scale) {
-                return false;
-            }
             boolean negative = a.number.negative != b.number.negative;
             return shorten(negative, most, wish, precision == 0 ? NO_ROUNDING : mode);
         }

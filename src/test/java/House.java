@@ -59,7 +59,7 @@ final class House {
         due(what + " changes nothing", state(), before);
     }
 
-    /** All registers and the paper, and how much the tape has; the tape's bytes stay, for it is fed again. */
+    /** All registers and the paper, and how much the tape has; what tape() gave it is fed again. */
     String state() {
         StringBuilder all = new StringBuilder();
         for (int i = 0; i < 11008; i += 8) {
@@ -79,22 +79,16 @@ final class House {
             }
             all.append(' ').append(x.told(2, a, 0)).append(' ').append(x.told(3, a, 0)).append(';');
         }
-        int size = x.feed(1, 'x');
+        int size = x.wipe();
         all.append("tape ").append(size);
-        return all.append(size == NumberHouse.NONE ? "" : restoreTape(size - 1)).toString();
+        if (size == 0) {
+            fed = "";
+        }
+        feed(fed);
+        return all.toString();
     }
 
     private String fed = "";
-
-    private String restoreTape(int size) {
-        x.wipe();
-        if (size == fed.length()) {
-            feed(fed);
-            return "";
-        }
-        fed = "";
-        return " used";
-    }
 
     /** The tape has this text alone then. */
     void tape(String text) {
