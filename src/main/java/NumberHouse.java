@@ -37,7 +37,7 @@ public final class NumberHouse {
     private final Digits digits = new Digits();
     private final Reader reader = new Reader(tape, mill);
     private final Writer writer = new Writer(paper, mill, digits);
-    private final Printer printer = new Printer(digits);
+    private final Printer printer = new Printer(tape, digits);
 
     public NumberHouse() {
         for (int i = 0; i < REGISTERS; i++) {
@@ -321,7 +321,7 @@ public final class NumberHouse {
         if (tape.size > FORMAT_ROOM) {
             throw new IllegalStateException("the tape has more than 256 bytes");
         }
-        int answer = printer.run(tape, paper);
+        int answer = printer.run(paper);
         if (answer >= 0) {
             tape.clear();
         }
@@ -348,7 +348,7 @@ public final class NumberHouse {
         } else if (kind == 6) {
             printer.addNumber(Printer.CHARACTER, a, 0);
         } else {
-            printer.addText(tape);
+            printer.addText();
             tape.clear();
         }
     }
@@ -2184,12 +2184,15 @@ public final class NumberHouse {
         int precision;
         int conversion;
         int place;
-        private Sheet text;
+        private final Sheet text;
         private boolean twice;
 
+        Directive(Sheet text) {
+            this.text = text;
+        }
+
         /** Place stands behind the directive then. */
-        void parse(Sheet format, int from) {
-            text = format;
+        void parse(int from) {
             place = from + 1;
             flags = 0;
             twice = false;
@@ -2320,15 +2323,18 @@ public final class NumberHouse {
         private final long[] numbers = new long[MOST_ARGUMENTS];
         private final int[] scales = new int[MOST_ARGUMENTS];
         private final Sheet[] texts = new Sheet[MOST_ARGUMENTS];
-        private final Directive directive = new Directive();
+        private final Sheet tape;
+        private final Directive directive;
         private final Digits digits;
         private final Sheet body = new Sheet(MOST_PRINTED + 8);
         private int zerosAt;
         private int ordinary;
         private int last;
 
-        Printer(Digits digits) {
+        Printer(Sheet tape, Digits digits) {
+            this.tape = tape;
             this.digits = digits;
+            directive = new Directive(tape);
             for (int i = 0; i < MOST_ARGUMENTS; i++) {
                 texts[i] = new Sheet(TEXT_ROOM);
             }
@@ -2347,29 +2353,27 @@ public final class NumberHouse {
             }
         }
 
-        void addText(Sheet text) {
+        void addText() {
             if (count < MOST_ARGUMENTS) {
                 texts[count].clear();
-                for (int i = 0; i < text.size; i++) {
-                    texts[count].add(text.at(i));
-                }
+                copyInto(texts[count], tape, 0, tape.size);
                 addNumber(TEXT, 0, 0);
             }
         }
 
-        /** How many bytes were printed, or the first fault and its place. */
-        int run(Sheet format, Sheet paper) {
+        /** How many bytes the tape as a format printed, or the first fault and its place. */
+        int run(Sheet paper) {
             paper.clear();
             ordinary = 0;
             last = NONE;
             int place = 0;
-            for (int turn = 0; turn <= FORMAT_ROOM && place < format.size; turn++) {
+            for (int turn = 0; turn <= FORMAT_ROOM && place < tape.size; turn++) {
                 body.clear();
                 zerosAt = NONE;
                 int next = place + 1;
                 int fault = 0;
-                if (format.at(place) == '%') {
-                    directive.parse(format, place);
+                if (tape.at(place) == '%') {
+                    directive.parse(place);
                     next = directive.place;
                     fault = findFault();
                     if (fault == 0) {
@@ -2377,7 +2381,7 @@ public final class NumberHouse {
                     }
                 } else {
                     directive.setPlain();
-                    body.add(format.at(place));
+                    body.add(tape.at(place));
                 }
                 if (fault == 0 && paper.size + Math.max(body.size, directive.width) > MOST_PRINTED) {
                     fault = 12;
