@@ -1350,7 +1350,6 @@ public final class NumberHouse {
         /** The size of a divided by b, times 10 to the raise, without what stands behind the point. */
         private void divideRaised(Dec a, Dec b, int raise) {
             mill.one.copy(a.number);
-            mill.one.negative = false;
             mill.one.timesTen(raise);
             lost = mill.one.dropFigures(-raise);
             mill.one.divideBy(b.number, mill.quotient);
@@ -1787,7 +1786,6 @@ public final class NumberHouse {
         private void begin() {
             place = 0;
             end = tape.size;
-            negative = false;
         }
 
         private void trimBlanks() {

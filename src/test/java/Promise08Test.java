@@ -83,6 +83,8 @@ public final class Promise08Test {
         h.refuses("modulo below 0", House.ARITHMETIC, () -> h.x.whole(5, 1, 2, 5));
         h.refuses("inverse modulo 0", House.ARITHMETIC, () -> h.x.whole(7, 1, 0, 5));
         h.refuses("inverse modulo below 0", House.ARITHMETIC, () -> h.x.whole(7, 3, 2, 5));
+        h.x.put(0, 4, 1);
+        h.refuses("inverse of 1 modulo 0", House.ARITHMETIC, () -> h.x.whole(7, 4, 0, 5));
         h.refuses("no inverse", House.ARITHMETIC, () -> h.x.whole(7, 1, 3, 5));
         h.refuses("no inverse of 0", House.ARITHMETIC, () -> h.x.whole(7, 0, 3, 5));
         int[][] calls = {{-1, 0, 0, 0}, {12, 0, 0, 0}, {0, -1, 0, 0}, {0, 0, 10, 0}, {0, 0, 0, 10}, {3, 0, 0, -1}};
