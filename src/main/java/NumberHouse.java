@@ -861,7 +861,6 @@ public final class NumberHouse {
             shiftLeft(shift);
             int places = size - divisor.size + 1;
             push(0);
-            Arrays.fill(quotient.limbs, 0, Math.min(places, quotient.limbs.length), 0);
             for (int i = places - 1; i >= 0; i--) {
                 int figure = takeTimes(i, divisor);
                 if (i < quotient.limbs.length) {

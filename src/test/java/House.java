@@ -137,23 +137,32 @@ final class House {
     }
 
     void setWhole(int to, BigInteger value) {
-        if (!reads(0, to, 36, value.toString(36))) {
-            throw new RuntimeException("a whole is not read");
-        }
+        due("a whole is read", reads(0, to, 36, value.toString(36)), true);
+        forget();
+    }
+
+    /** So that no test passes by what the call before it left in the object's scratch numbers. */
+    private void forget() {
+        x.told(1, 0, 3);
+        x.told(2, 0, 0);
     }
 
     BigInteger getWhole(int a) {
-        return new BigInteger(printed(0, a, 32), 32);
+        String text = printed(0, a, 32);
+        due("a sign of 0", text.equals("-0"), false);
+        return new BigInteger(text, 32);
     }
 
     void setDecimal(int to, BigDecimal value) {
-        if (!reads(1, to, 10, value.unscaledValue() + "E" + -(long) value.scale())) {
-            throw new RuntimeException("a decimal is not read");
-        }
+        due("a decimal is read", reads(1, to, 10, value.unscaledValue() + "E" + -(long) value.scale()), true);
+        forget();
     }
 
     BigDecimal getDecimal(int a) {
-        return new BigDecimal(printed(1, a, 0));
+        String text = printed(1, a, 0);
+        BigDecimal value = new BigDecimal(text);
+        due("a sign of 0", value.signum() == 0 && text.startsWith("-"), false);
+        return value;
     }
 
     static BigInteger two(int power) {

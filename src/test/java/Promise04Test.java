@@ -87,7 +87,7 @@ public final class Promise04Test {
         decimal("0e10000", "0", -10000);
         decimal(".1e-9999", "1", 10000);
         String[] none = {"", ".", "+", "-.", "e1", "1e", "1e+", "1e-", "1e00000000001", "1.2.3", "1..", " 1", "1 ",
-            "1e1.0", "1f", "0x1p1", "NaN", "1e1e1", "--1", "1,0", "+-1", "1e+-1"};
+            "1e1.0", "1f", "0x1p1", "NaN", "1e1e1", "1d5", "1D5", "1g", "--1", "1,0", "+-1", "1e+-1"};
         for (String text : none) {
             decimal(text, null, 0);
         }
@@ -173,7 +173,7 @@ public final class Promise04Test {
         narrow("16777217.0000000000000000000000000001", 16777218.0f);
         String[] none = {"", " ", ".", "+", "e5", "1e", "1e+", "1ef", "1dd", "1 d", "nan", "infinity", "Inf", "NaNf",
             "Infinityd", "+ 1", "1,5", "1e5.0", "--1", "0x", "0x1", "0x1.8", "0xp1", "0x.p1", "0x1p", "0x1p+", "0x1pa",
-            "0x1p1 1", "0x1.1.1p1", "1_0", "1L", "f", "- NaN", "N", "x1p1", "0x1p1df", "00x1p1"};
+            "0x1p1 1", "0x1.1.1p1", "1_0", "1L", "f", "- NaN", "N", "x1p1", "0x1p1df", "00x1p1", "1d5", "1D5", "0x1q1", "0y1p1", "1g", "1c"};
         for (String text : none) {
             noFloat(text);
         }

@@ -156,6 +156,13 @@ public final class Promise16Test {
         between(2, Double.doubleToRawLongBits(-1e300), 0xff800000L);
         between(2, Double.doubleToRawLongBits(-1e-300), 0x80000000L);
         between(2, 1, 0);
+        between(2, Double.doubleToRawLongBits(1 + 0x1p-24), Float.floatToRawIntBits(1.0f));
+        between(2, Double.doubleToRawLongBits(1 + 3 * 0x1p-24), Float.floatToRawIntBits(1 + 0x1p-22f));
+        between(2, Double.doubleToRawLongBits(1 + 0x1p-24 + 0x1p-52), Float.floatToRawIntBits(1 + 0x1p-23f));
+        between(2, Double.doubleToRawLongBits(0x1p-150), 0);
+        between(2, Double.doubleToRawLongBits(0x1.8p-149), 2);
+        between(2, Double.doubleToRawLongBits(0x1.ffffffp127), 0x7f800000L);
+        between(2, Double.doubleToRawLongBits(0x1.fffffefffffffp127), 0x7f7fffffL);
         between(3, 1, Double.doubleToRawLongBits(Float.MIN_VALUE));
         between(3, Float.floatToRawIntBits(0.1f), Double.doubleToRawLongBits(0.1f));
     }
