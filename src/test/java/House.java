@@ -143,8 +143,8 @@ final class House {
 
     /** So that no test passes by what the call before it left in the object's scratch numbers. */
     private void forget() {
-        x.told(1, 0, 3);
-        x.told(2, 0, 0);
+        due("what is no text", reads(0, 0, 10, "-987654321098765432109876543210x"), false);
+        tape("");
     }
 
     BigInteger getWhole(int a) {

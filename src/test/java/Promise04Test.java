@@ -7,6 +7,7 @@ public final class Promise04Test {
         decimals();
         floats();
         hexadecimals();
+        oneAfterAnother();
         wrongCalls();
         House.end();
     }
@@ -177,6 +178,25 @@ public final class Promise04Test {
         for (String text : none) {
             noFloat(text);
         }
+    }
+
+    /** What one text was does not count for the next one. */
+    private static void oneAfterAnother() {
+        House h = new House();
+        String[] texts = {"-0." + zeros(10) + "9" + zeros(900) + "1e-5", "9007199254740993", "-0x1." + zeros(60) + "1p-3",
+            "0x1.00000000000008p0", "9007199254740993", "-1e", "7", "0x1p5", "1.5"};
+        for (String text : texts) {
+            boolean good = !text.equals("-1e");
+            House.due("read " + text, h.reads(2, 1, 10, text), good);
+            if (good) {
+                House.due("wide " + text, h.x.told(2, 1, 0), Double.doubleToRawLongBits(Double.parseDouble(text)));
+            }
+        }
+        House.due("a long decimal", h.reads(1, 0, 10, "-1." + zeros(999) + "e-5"), true);
+        House.due("a short one", h.reads(1, 0, 10, "5"), true);
+        House.due("it alone", h.printed(1, 0, 0), "5");
+        House.due("a whole", h.reads(0, 0, 10, "-12") && h.reads(0, 0, 10, "3"), true);
+        House.due("it alone, too", h.printed(0, 0, 10), "3");
     }
 
     private static void hexadecimals() {

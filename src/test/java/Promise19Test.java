@@ -28,6 +28,13 @@ public final class Promise19Test {
         h.tape("x");
         House.due("the first again", h.x.argument(7, 0), 1);
         House.due("it alone", h.formatted("%s"), "x");
+        h.tape("a longer text");
+        h.x.argument(7, 0);
+        h.x.argument(8, 0);
+        h.tape("y");
+        h.x.argument(7, 0);
+        h.x.argument(7, 0);
+        House.due("texts without what was there before", h.formatted("%s|%s"), "y|");
         edges();
         wrongCalls();
         House.end();
