@@ -9,7 +9,7 @@ public final class AnyCallsTest {
         "%9$s", "%-5000d", "%4000s", "%c%b%n%%", "99999", "1e", "5e-40", "3e10", "0e10000"};
 
     public static void main(String[] args) {
-        for (int round = 0; round < 300; round++) {
+        for (int round = 0; round < 200; round++) {
             House h = new House();
             fill(h);
             for (int call = 0; call < 300; call++) {

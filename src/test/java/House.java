@@ -59,7 +59,7 @@ final class House {
         due(what + " changes nothing", state(), before);
     }
 
-    /** All registers and the paper, and how much the tape has; what tape() gave it is fed again. */
+    /** All registers, of long decimals some digits, and the paper, and how much the tape has; what tape() gave it is fed again. */
     String state() {
         StringBuilder all = new StringBuilder();
         for (int i = 0; i < 11008; i += 8) {
@@ -74,7 +74,7 @@ final class House {
             }
             long precision = x.told(1, a, 2);
             all.append(x.told(1, a, 0)).append(' ').append(x.told(1, a, 1)).append(' ');
-            for (int i = 0; i < precision; i++) {
+            for (int i = 0; i < precision; i += i < 10 || i > precision - 10 ? 1 : 61) {
                 all.append(x.told(1, a, 3 + i));
             }
             all.append(' ').append(x.told(2, a, 0)).append(' ').append(x.told(3, a, 0)).append(';');
