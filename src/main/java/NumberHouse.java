@@ -1905,13 +1905,13 @@ public final class NumberHouse {
             turn(scale);
         }
 
-        /** A long is taken without a sign, so that the least one has its size, too. */
-        void fillLong(long size, int scale) {
+        /** Takes the number's size from below 0, since the least long has none above it. */
+        void fillLong(long number, int scale) {
             count = 0;
-            long left = size;
+            long left = number > 0 ? -number : number;
             for (int i = 0; i < 20 && left != 0; i++) {
-                row[count] = (byte) Long.remainderUnsigned(left, 10);
-                left = Long.divideUnsigned(left, 10);
+                row[count] = (byte) -(left % 10);
+                left /= 10;
                 count++;
             }
             turn(scale);
@@ -2449,7 +2449,7 @@ public final class NumberHouse {
                 writeToBase(numbers[last]);
             } else {
                 writeSign(numbers[last] < 0);
-                digits.fillLong(Math.abs(numbers[last]), scales[last]);
+                digits.fillLong(numbers[last], scales[last]);
                 writeNumber();
                 if (numbers[last] < 0 && directive.has(Directive.BRACKET)) {
                     body.add(')');
@@ -2481,7 +2481,7 @@ public final class NumberHouse {
                     if (numbers[which] < 0) {
                         body.add('-');
                     }
-                    digits.fillLong(Math.abs(numbers[which]), scales[which]);
+                    digits.fillLong(numbers[which], scales[which]);
                     digits.writePlain(body, scales[which], false, false);
             }
         }

@@ -7,6 +7,7 @@ public final class Promise20Test {
         wholes();
         decimals();
         general();
+        leastAndGreatest();
         arguments();
         faults();
         lengths();
@@ -104,6 +105,35 @@ public final class Promise20Test {
         check("%,.7g|%(g|%012g|%-12g|%+g", "123,456.7|(1.50000)|-00001.50000|1.50000     |+1.50000",
                 dec("123456.7"), dec("-1.5"), dec("-1.5"), dec("1.5"), dec("1.5"));
         check("%.1g|%.5g", "0|0.0000", dec("0"), dec("0.00"));
+    }
+
+    /** The least number of 64 bits has a size that no number of 64 bits has. */
+    private static void leastAndGreatest() {
+        long least = Long.MIN_VALUE;
+        long greatest = Long.MAX_VALUE;
+        check("%d|%s|%S|%(d|%,d", "-9223372036854775808|-9223372036854775808|-9223372036854775808|(9223372036854775808)|"
+                + "-9,223,372,036,854,775,808", least, least, least, least, least);
+        check("%d|%s|%S|%+d|%,d", "9223372036854775807|9223372036854775807|9223372036854775807|+9223372036854775807|"
+                + "9,223,372,036,854,775,807", greatest, greatest, greatest, greatest, greatest);
+        check("%022d|%22d|%-22d|", "-009223372036854775808|  -9223372036854775808|-9223372036854775808  |", least, least, least);
+        check("%d|%s|%d|%s", "-9223372036854775807|-9223372036854775807|9223372036854775806|9223372036854775806",
+                -greatest, -greatest, greatest - 1, greatest - 1);
+        BigDecimal low = BigDecimal.valueOf(least);
+        check("%f|%e|%g|%s", "-9223372036854775808.000000|-9.223372e+18|-9.22337e+18|-9223372036854775808", low, low, low, low);
+        check("%.0f|%.18e|%.19g|%.18g", "-9223372036854775808|-9.223372036854775808e+18|-9223372036854775808|-9.22337203685477581e+18",
+                low, low, low, low);
+        check("%(,.1f|%(.17E|%(.1G", "(9,223,372,036,854,775,808.0)|(9.22337203685477581E+18)|(9E+18)", low, low, low);
+        BigDecimal split = BigDecimal.valueOf(least, 18);
+        check("%f|%e|%g|%s", "-9.223372|-9.223372e+00|-9.22337|-9.223372036854775808", split, split, split, split);
+        check("%.18f|%.17f|%.18e|%.19g", "-9.223372036854775808|-9.22337203685477581|-9.223372036854775808e+00|-9.223372036854775808",
+                split, split, split, split);
+        BigDecimal small = BigDecimal.valueOf(least, 40);
+        check("%f|%e|%g|%s", "-0.000000|-9.223372e-22|-9.22337e-22|-0.0000000000000000000009223372036854775808",
+                small, small, small, small);
+        check("%.40f|%.39f", "-0.0000000000000000000009223372036854775808|-0.000000000000000000000922337203685477581", small, small);
+        BigDecimal high = BigDecimal.valueOf(greatest);
+        check("%f|%e|%g|%s", "9223372036854775807.000000|9.223372e+18|9.22337e+18|9223372036854775807", high, high, high, high);
+        check("%.18e|%.19g|%.18g", "9.223372036854775807e+18|9223372036854775807|9.22337203685477581e+18", high, high, high);
     }
 
     private static void arguments() {
