@@ -623,7 +623,17 @@ public final class NumberHouse {
         }
 
         int bitLength() {
-            return size == 0 ? 0 : size * LIMB + 1 - Integer.numberOfLeadingZeros(limbs[size - 1]);
+            return size == 0 ? 0 : (size - 1) * LIMB + bitsOf(limbs[size - 1]);
+        }
+
+        /** With every bit below the first one a one, there are as many ones as the size has bits. */
+        static int bitsOf(int number) {
+            int ones = number | number >>> 1;
+            ones |= ones >>> 2;
+            ones |= ones >>> 4;
+            ones |= ones >>> 8;
+            ones |= ones >>> 16;
+            return Integer.bitCount(ones);
         }
 
         /** Just a power of 2 below 0 needs one bit less than its size has. */
@@ -635,7 +645,7 @@ public final class NumberHouse {
         int lowestOne() {
             for (int i = 0; i < size; i++) {
                 if (limbs[i] != 0) {
-                    return i * LIMB + Integer.numberOfTrailingZeros(limbs[i]);
+                    return i * LIMB + Integer.bitCount((limbs[i] & -limbs[i]) - 1);
                 }
             }
             return 0;
@@ -856,7 +866,7 @@ public final class NumberHouse {
                 divideByLimb(divisor.limbs[0], quotient);
                 return;
             }
-            int shift = Integer.numberOfLeadingZeros(divisor.limbs[divisor.size - 1]) - 1;
+            int shift = LIMB - bitsOf(divisor.limbs[divisor.size - 1]);
             divisor.shiftLeft(shift);
             shiftLeft(shift);
             int places = size - divisor.size + 1;
@@ -1039,7 +1049,7 @@ public final class NumberHouse {
         /** The power comes in power; false as soon as it has more bits than it may. */
         boolean power(Big base, int n, int mostBits) {
             power.setLong(1);
-            for (int i = 31 - Integer.numberOfLeadingZeros(n); i >= 0; i--) {
+            for (int i = Big.bitsOf(n) - 1; i >= 0; i--) {
                 work.product(power, power);
                 if (work.bitLength() > mostBits) {
                     return false;
@@ -1256,7 +1266,7 @@ public final class NumberHouse {
             boolean below = mill.number.negative;
             mill.one.setLong(1);
             mill.one.divideBy(divisor, mill.quotient);
-            for (int i = 31 - Integer.numberOfLeadingZeros(raise); i >= 0; i--) {
+            for (int i = Big.bitsOf(raise) - 1; i >= 0; i--) {
                 mill.two.product(mill.one, mill.one);
                 mill.two.timesTen(raise >>> i & 1);
                 mill.two.divideBy(divisor, mill.quotient);
@@ -2127,7 +2137,10 @@ public final class NumberHouse {
             paper.addText(floats.exponent(bits) > 0 ? "0x1." : "0x0.");
             int figures = (floats.fractionBits + 3) / 4;
             long fraction = floats.fraction(bits) << 4 * figures - floats.fractionBits;
-            int zeros = Math.min(Long.numberOfTrailingZeros(fraction) / 4, figures - 1);
+            int zeros = 0;
+            while (zeros < figures - 1 && (fraction >>> 4 * zeros & 15) == 0) {
+                zeros++;
+            }
             for (int i = figures - 1; i >= zeros; i--) {
                 paper.add(LETTERS.charAt((int) (fraction >>> 4 * i) & 15));
             }
@@ -2493,7 +2506,10 @@ public final class NumberHouse {
             }
             zerosAt = body.size;
             int bits = octal ? 3 : 4;
-            int figures = Math.max(1, (63 - Long.numberOfLeadingZeros(number)) / bits + 1);
+            int figures = 63 / bits + 1;
+            while (figures > 1 && number >>> bits * (figures - 1) == 0) {
+                figures--;
+            }
             for (int i = figures - 1; i >= 0; i--) {
                 body.add(Writer.LETTERS.charAt((int) (number >>> bits * i) & (1 << bits) - 1));
             }
