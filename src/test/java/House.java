@@ -9,6 +9,8 @@ final class House {
 
     private static int checks = 0;
     private static int wrong = 0;
+    private static String sentence = "";
+    private static int checksOfSentence = 1;
 
     final NumberHouse x = new NumberHouse();
 
@@ -17,12 +19,27 @@ final class House {
         void run();
     }
 
+    /** From here on the checks are of this sentence of the document; a wrong answer is told with it. */
+    static void sentence(String text) {
+        needChecks();
+        sentence = "\"" + text + "\": ";
+        checksOfSentence = 0;
+    }
+
+    private static void needChecks() {
+        if (checksOfSentence == 0) {
+            wrong++;
+            System.out.println(sentence + "nothing was checked");
+        }
+    }
+
     static void due(String what, Object got, Object want) {
         checks++;
+        checksOfSentence++;
         if (!String.valueOf(want).equals(String.valueOf(got))) {
             wrong++;
             if (wrong <= 40) {
-                System.out.println(cut(what) + " answered " + cut(got) + ", due is " + cut(want));
+                System.out.println(sentence + cut(what) + " answered " + cut(got) + ", due is " + cut(want));
             }
         }
     }
@@ -33,6 +50,7 @@ final class House {
     }
 
     static void end() {
+        needChecks();
         System.out.println(checks + " checks, " + wrong + " wrong");
         if (wrong != 0 || checks == 0) {
             System.exit(1);
