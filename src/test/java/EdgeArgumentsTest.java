@@ -15,6 +15,9 @@ public final class EdgeArgumentsTest {
         texts64();
         allGo();
         copies();
+        howMany();
+        otherKinds();
+        notSuch();
         House.end();
     }
 
@@ -94,12 +97,13 @@ public final class EdgeArgumentsTest {
     }
 
     private static void characters() {
-        House.sentence("a is not 0 .. 255 (6)");
+        House.sentence("a CHARACTER, with a code 0 .. 255");
         for (int a = 0; a < 256; a++) {
             House h = new House();
             House.due("the character " + a, h.x.argument(6, a), 1);
             House.due("it is", h.formatted("%c"), String.valueOf((char) a));
         }
+        House.sentence("a is not 0 .. 255 (6)");
         for (int a : new int[] {-1, 256, 257, 65536, Integer.MIN_VALUE, Integer.MAX_VALUE}) {
             Twins.refuses("the character " + a, House.ILLEGAL_ARGUMENT, Twins.FURNISHED, x -> x.argument(6, a));
         }
@@ -173,7 +177,7 @@ public final class EdgeArgumentsTest {
     }
 
     private static void texts64() {
-        House.sentence("IllegalStateException: the tape has more than 64 bytes (7).");
+        House.sentence("a TEXT of at most 64 bytes");
         for (int length : new int[] {0, 1, 7, 8, 63, 64}) {
             House h = new House();
             String text = times('y', length).replaceFirst("y$", "z");
@@ -181,6 +185,7 @@ public final class EdgeArgumentsTest {
             House.due(length + " bytes", h.x.argument(7, 0), 1);
             House.due("they are", h.formatted("<%s>"), "<" + text + ">");
         }
+        House.sentence("IllegalStateException: the tape has more than 64 bytes (7).");
         for (int length : new int[] {65, 66, 128, 256, 257, 4100}) {
             Twins.refuses(length + " bytes", House.ILLEGAL_STATE, Twins.withTape(times('y', length)), x -> x.argument(7, 0));
         }
@@ -212,6 +217,38 @@ public final class EdgeArgumentsTest {
         h.x.argument(8, 0);
         House.due("the tape stays", h.x.wipe(), 4);
         House.due("and the paper", h.paper(5), "31.25");
+    }
+
+    private static void howMany() {
+        House.sentence("Answers how many there are then");
+        House h = new House();
+        int[] kinds = {0, 1, 4, 5, 6, 7, 0, 1, 4};
+        for (int i = 0; i < 9; i++) {
+            House.due("argument " + (i + 1), h.x.argument(kinds[i], 0), i + 1);
+        }
+        House.due("all went", h.x.argument(8, 0), 0);
+        House.due("one again", h.x.argument(7, 0), 1);
+    }
+
+    private static void otherKinds() {
+        House.sentence("IllegalArgumentException, too: kinds 2 and 3, or others");
+        for (int kind : new int[] {-1, 2, 3, 9, 10, 256, Integer.MIN_VALUE, Integer.MAX_VALUE}) {
+            Twins.refuses("the kind " + kind, House.ILLEGAL_ARGUMENT, Twins.FURNISHED, x -> x.argument(kind, 3));
+        }
+        for (int kind : new int[] {0, 1, 4, 5, 6, 7, 8}) {
+            Twins.takes("the kind " + kind, Twins.FURNISHED, x -> x.argument(kind, 3));
+        }
+    }
+
+    private static void notSuch() {
+        House.sentence("ArithmeticException: the number is not such as an argument can have.");
+        Twins.Setup great = Twins.furnished(h -> h.setWhole(1, House.two(63)));
+        Twins.refuses("2 to the 63", House.ARITHMETIC, great, x -> x.argument(0, 1));
+        Twins.takes("one less", Twins.furnished(h -> h.setWhole(1, House.two(63).subtract(java.math.BigInteger.ONE))), x -> x.argument(0, 1));
+        Twins.takes("-2 to the 63", Twins.furnished(h -> h.setWhole(1, House.two(63).negate())), x -> x.argument(0, 1));
+        Twins.refuses("one less", House.ARITHMETIC, Twins.furnished(h -> h.setWhole(1, House.two(63).negate().subtract(java.math.BigInteger.ONE))), x -> x.argument(0, 1));
+        Twins.refuses("a number and a scale", House.ARITHMETIC, Twins.furnished(h -> h.setDecimal(1, new BigDecimal(House.two(63), 41))), x -> x.argument(1, 1));
+        Twins.refuses("a value that is whole, with a scale below 0", House.ARITHMETIC, Twins.furnished(h -> h.setDecimal(1, new BigDecimal("1E+1"))), x -> x.argument(1, 1));
     }
 
     /** An argument is what the register had when it came. */

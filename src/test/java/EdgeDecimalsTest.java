@@ -13,6 +13,7 @@ public final class EdgeDecimalsTest {
         scaleOfPowers();
         scaleOfQuotients();
         scaleOfRoots();
+        scalesOnTheWay();
         precisionWhenRead();
         precisionOfSums();
         precisionOfProducts();
@@ -166,6 +167,29 @@ public final class EdgeDecimalsTest {
         shape(2, "0E-10000", 1, 7, "0 5000");
         shape(2, "0E+10000", 1, 7, "0 -5000");
         shape(2, "2E-10000", 1000, 1, new BigDecimal(BigInteger.TWO).multiply(new BigDecimal(House.ten(1998))).toBigInteger().sqrt() + " 5999");
+    }
+
+    /** The wish lies where no register can have it, the scale that is found does not. */
+    private static void scalesOnTheWay() {
+        House.sentence("(Scales are any integers here, and where a least or nearest one is asked for below; a register must then be able to have the one that is found.)");
+        String far = House.ten(600) + "E-10000";
+        quotient(far, "1E+500", 1, 7, "1 9900");
+        quotient(far, "1E+500", 101, 7, House.ten(100) + " 10000");
+        quotient(far, "1E+500", 102, 7, null);
+        quotient(far, "1E+500", 1000, 7, null);
+        quotient(far, "1E+500", 0, 7, null);
+        quotient(far, "3E+500", 102, 1, null);
+        quotient(far, "3E+500", 101, 1, null);
+        quotient(far, "3E+500", 100, 1, House.ten(100).divide(BigInteger.valueOf(3)) + " 10000");
+        quotient("1E+10000", "8E-2", 0, 7, "125 -9999");
+        quotient("1E+10000", "8E-3", 0, 7, "125 -10000");
+        quotient("1E+10000", "8E-4", 0, 7, null);
+        quotient("1E+9999", "8E-2", 0, 7, "125 -9998");
+        quotient("1E+10000", "8E-2", 1000, 7, "125 -9999");
+        by(2, "1000E+9998", 0, null);
+        by(2, "1000E+9997", 0, "1 -10000");
+        shape(1, "1000E+9998", 1, 7, null);
+        shape(1, "1000E+9998", 2, 7, "10 -10000");
     }
 
     private static void precisionWhenRead() {

@@ -7,6 +7,7 @@ public final class EdgeFloatPrintTest {
         leastLength();
         atLeastTwo();
         nearest();
+        evenOfTwo();
         notANumber();
         nought();
         writtenOut();
@@ -97,6 +98,24 @@ public final class EdgeFloatPrintTest {
         }
     }
 
+    /** Steps of a quarter: the last figure of a fourth or of three fourths is as near to two tenths. */
+    private static void evenOfTwo() {
+        House.sentence("of two such that whose c, of n figures, is even");
+        shortest(2, Double.doubleToRawLongBits(1125899906842624.25), 11258999068426242L, -1);
+        shortest(2, Double.doubleToRawLongBits(1125899906842624.75), 11258999068426248L, -1);
+        shortest(2, Double.doubleToRawLongBits(1125899906842625.25), 11258999068426252L, -1);
+        shortest(2, Double.doubleToRawLongBits(-1125899906842624.25), 11258999068426242L, -1);
+        shortest(2, Double.doubleToRawLongBits(2251799813685247.25), 22517998136852472L, -1);
+        shortest(2, Double.doubleToRawLongBits(2251799813685247.75), 22517998136852478L, -1);
+        shortest(2, Double.doubleToRawLongBits(1125899906842624.5), 11258999068426245L, -1);
+        shortest(3, Float.floatToRawIntBits(2097152.25f), 20971522, -1);
+        shortest(3, Float.floatToRawIntBits(2097152.75f), 20971528, -1);
+        shortest(3, Float.floatToRawIntBits(4194303.25f), 41943032, -1);
+        shortest(3, Float.floatToRawIntBits(4194303.75f), 41943038, -1);
+        wide(1125899906842624.25, "1.1258999068426242E15");
+        narrow(2097152.75f, "2097152.8");
+    }
+
     private static void checkNearest(int kind, long bits, BigDecimal x) {
         House h = new House();
         h.x.put(kind, 1, bits);
@@ -129,6 +148,7 @@ public final class EdgeFloatPrintTest {
             House.due("short", h.printed((int) row[0], 1, 0), "NaN");
             House.due("hexadecimal", h.printed((int) row[0], 1, 1), "NaN");
         }
+        House.sentence("HEXADECIMAL TEXT: as the short text in what is not finite, and for the sign");
         long[] infinite = {0x7ff0000000000000L, 0xfff0000000000000L, 0x7f800000L, 0xff800000L};
         for (int i = 0; i < 4; i++) {
             h.x.put(2 + i / 2, 1, infinite[i]);
@@ -163,6 +183,14 @@ public final class EdgeFloatPrintTest {
         narrow(9999999, "9999999.0");
         narrow(1234567, "1234567.0");
         narrow(123.25f, "123.25");
+        House.sentence("no 0 at the end of more than one behind it, and no 0 at the beginning of more than one before it");
+        wide(5, "5.0");
+        wide(50, "50.0");
+        wide(0.5, "0.5");
+        wide(0.25, "0.25");
+        wide(0.05, "0.05");
+        wide(505.05, "505.05");
+        narrow(50.5f, "50.5");
     }
 
     private static void withAPower() {

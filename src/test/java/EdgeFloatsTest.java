@@ -9,6 +9,7 @@ public final class EdgeFloatsTest {
         narrowBits();
         notFinite();
         sizes();
+        belowNought();
         minusZero();
         roundsToNearest();
         roundsToInfinity();
@@ -102,6 +103,26 @@ public final class EdgeFloatsTest {
         h.x.put(3, 1, 1);
         h.x.convert(3, 1, 1, 2);
         House.due("the least narrow one", h.getDecimal(2).multiply(TWO.pow(149)).compareTo(BigDecimal.ONE), 0);
+    }
+
+    private static void belowNought() {
+        House.sentence("it is below 0 if the sign is 1");
+        for (int kind = 2; kind < 4; kind++) {
+            long one = kind == 2 ? 0x3ff0000000000000L : 0x3f800000L;
+            for (long size : new long[] {1, one, one - 1, one + 1}) {
+                House h = new House();
+                h.x.put(kind, 1, size);
+                h.x.put(kind, 2, size | sign(kind));
+                House.due("above 0", h.x.compare(kind, 1, 0), 1);
+                House.due("below 0", h.x.compare(kind, 2, 0), -1);
+                h.x.convert(kind, 1, 1, 1);
+                h.x.convert(kind, 2, 1, 2);
+                House.due("the sign above", h.x.told(1, 1, 0), 1);
+                House.due("the sign below", h.x.told(1, 2, 0), -1);
+                h.x.decimal(0, 1, 2, 3);
+                House.due("the same size", h.x.told(1, 3, 0), 0);
+            }
+        }
     }
 
     private static void minusZero() {

@@ -10,6 +10,7 @@ public final class EdgeFormatNumbersTest {
         generalPrecision();
         generalLow();
         generalHigh();
+        generalFar();
         generalZero();
         nothing();
         commas();
@@ -166,6 +167,18 @@ public final class EdgeFormatNumbersTest {
         prints("%.3g", "1.00e+03", "999.5");
         prints("%.3g", "1.23e+03", "1234");
         prints("%.4g", "1234", "1234");
+    }
+
+    private static void generalFar() {
+        House.sentence("otherwise as with e and the precision p - 1");
+        prints("%g", "1.23457e+06", "1234567");
+        prints("%.7g", "1234567", "1234567");
+        prints("%.1g", "1e+06", "1234567");
+        prints("%.0g", "1e+06", "1234567");
+        prints("%.2g", "1.2e-05", "0.0000123");
+        prints("%.1g", "1e-05", "0.0000123");
+        prints("%.3G", "-1.00E-40", "-1E-40");
+        prints("%.1g", "1e+18", "950000000000000000");
     }
 
     private static void generalZero() {

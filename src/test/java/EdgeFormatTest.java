@@ -6,6 +6,7 @@ public final class EdgeFormatTest {
         length();
         asItIs();
         indexes();
+        flags();
         widths();
         precisions();
         farNumbers();
@@ -75,6 +76,20 @@ public final class EdgeFormatTest {
         Formats.fails("%1$1$s", 2, 0, nine);
         Formats.fails("%-1$s", 2, 0, nine);
         Formats.fails("%1$", 1, 0, nine);
+    }
+
+    private static void flags() {
+        House.sentence("any FLAGS of - # + 0 , ( < and the blank");
+        for (String flags : new String[] {"#+0,(", "(,0+#", "0#(,+", "+(0#,", ",0+(#"}) {
+            Formats.prints("%" + flags + "12.0f", "(00001,234.)", dec("-1234"));
+            Formats.prints("%s%<" + flags + "12.0f", "-1234(00001,234.)", dec("-1234"));
+        }
+        Formats.prints("%- (,9d|", "(1,234)  |", -1234);
+        Formats.prints("%,(- 9d|", " 1,234   |", 1234);
+        Formats.prints("%#06x", "0x00ff", 255);
+        Formats.prints("%0#6x", "0x00ff", 255);
+        Formats.fails("%5+d", 2, 0, 7);
+        Formats.fails("%.1-f", 2, 0, dec("7"));
     }
 
     private static void widths() {
@@ -154,6 +169,9 @@ public final class EdgeFormatTest {
     }
 
     private static void noArgument() {
+        House.sentence("% prints %, n a line feed (10).");
+        Formats.prints("%%|%n|", "%|\n|");
+        Formats.prints("%%%%%n%n", "%%\n\n");
         House.sentence("(% and n have none.)");
         Formats.prints("%%", "%");
         Formats.prints("%n", "\n");
