@@ -6,6 +6,7 @@ public final class EdgeConvertTest {
     private static final BigInteger MOST = House.two(2048).subtract(BigInteger.ONE);
 
     public static void main(String[] args) {
+        ofTheSame();
         wholesFromDecimals();
         wholesFromFloats();
         wholesTooGreat();
@@ -18,6 +19,20 @@ public final class EdgeConvertTest {
         sameFormat();
         notFinite();
         House.end();
+    }
+
+    private static void ofTheSame() {
+        House.sentence("A register of a kind gets the value of one of a kind, or of the same");
+        for (BigInteger value : new BigInteger[] {BigInteger.ZERO, BigInteger.ONE, BigInteger.ONE.negate(), MOST, MOST.negate()}) {
+            House h = new House();
+            Twins.furnish(h);
+            h.setWhole(1, value);
+            h.x.convert(0, 1, 0, 2);
+            House.due("a whole from a whole", h.getWhole(2), value);
+            House.due("which stays", h.getWhole(1), value);
+            h.x.convert(0, 1, 0, 1);
+            House.due("a whole from itself", h.getWhole(1), value);
+        }
     }
 
     private static void wholesFromDecimals() {
