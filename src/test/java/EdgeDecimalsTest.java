@@ -21,6 +21,7 @@ public final class EdgeDecimalsTest {
         precisionOfShapes();
         precisionOfWhatIsConverted();
         digitsOfZero();
+        zeroHasNoSign();
         sameValue();
         House.end();
     }
@@ -320,6 +321,33 @@ public final class EdgeDecimalsTest {
             House.due("a power of ten", h.x.told(1, 1, 2), digits);
             h.setDecimal(1, new BigDecimal(House.ten(digits).subtract(BigInteger.ONE).negate()));
             House.due("nines", h.x.told(1, 1, 2), digits);
+        }
+    }
+
+    /** Nor does it get one from the call before, whose answer was below 0. */
+    private static void zeroHasNoSign() {
+        House.sentence("Written it has the digits of its number, and - before all if it is below 0.");
+        Twins.Act[] calls = {
+            x -> x.decimal(0, 1, 2, 3), x -> x.decimal(1, 1, 1, 3), x -> x.decimal(2, 1, 0, 3), x -> x.decimal(3, 1, 2, 3), x -> x.decimal(3, 0, 1, 3),
+            x -> x.decimalBy(0, 0, 3, 3), x -> x.decimalBy(1, 0, 3, 3), x -> x.decimalBy(2, 0, 3, 3), x -> x.divide(0, 1, 3, 5, 0), x -> x.divide(1, 2, 3, -5, 1),
+            x -> x.quotient(0, 1, 3, 5, 0), x -> x.quotient(0, 1, 3, 0, 0), x -> x.shape(0, 0, 3, 2, 0), x -> x.shape(0, 1, 3, -5, 1), x -> x.shape(1, 0, 3, 2, 0),
+            x -> x.shape(2, 0, 3, 2, 0), x -> x.convert(0, 0, 1, 3), x -> x.convert(1, 0, 1, 3), x -> x.convert(2, 0, 1, 3), x -> x.convert(2, 2, 1, 3), x -> x.put(1, 3, 0),
+        };
+        for (int i = 0; i < calls.length; i++) {
+            House h = new House();
+            h.x.put(0, 1, -7);
+            h.x.put(1, 1, -7);
+            h.x.put(1, 2, 7);
+            h.x.put(2, 2, Long.MIN_VALUE);
+            h.x.whole(2, 1, 1, 2);
+            h.x.whole(1, 1, 2, 3);
+            House.due("the call before", h.x.told(0, 3, 0), -56);
+            calls[i].call(h.x);
+            House.due("the sign of call " + i, h.x.told(1, 3, 0), 0);
+            House.due("the text of call " + i, h.printed(1, 3, 1).startsWith("0"), true);
+            h.x.whole(1, 1, 2, 3);
+            h.x.whole(1, 1, 1, 3);
+            House.due("a whole", h.printed(0, 3, 10), "0");
         }
     }
 

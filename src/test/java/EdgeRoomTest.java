@@ -75,7 +75,7 @@ public final class EdgeRoomTest {
             h.x.put(2, 1, Double.doubleToRawLongBits(-Double.MIN_VALUE));
             h.tape("%1$S|%2$-9c|%3$b");
         };
-        long quiet = made("nothing", setup, x -> { });
+        long quiet = made(setup, x -> { });
         due("feed and wipe", quiet, setup, x -> {
             x.feed(8, 0x3131313131313131L);
             x.wipe();
@@ -145,14 +145,14 @@ public final class EdgeRoomTest {
     }
 
     private static void due(String what, long quiet, Twins.Setup setup, Twins.Act act) {
-        long more = made(what, setup, act) - quiet;
+        long more = made(setup, act) - quiet;
         House.due(what + " makes " + more + " bytes in " + CALLS + " calls", more < (long) CALLS * LEAST_OBJECT, true);
     }
 
-    /** The bytes that the calls of an object made, when the machine knows them all already. */
-    private static long made(String what, Twins.Setup setup, Twins.Act act) {
+    /** The bytes that the calls of an object made; the least of some rounds, since the machine makes some of its own at first. */
+    private static long made(Twins.Setup setup, Twins.Act act) {
         long least = Long.MAX_VALUE;
-        for (int round = 0; round < 2; round++) {
+        for (int round = 0; round < 3; round++) {
             House h = new House();
             setup.make(h);
             act.call(h.x);
