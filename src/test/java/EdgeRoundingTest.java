@@ -23,6 +23,7 @@ public final class EdgeRoundingTest {
         zeroHasAnyScale();
         greatestPower();
         oneFigureMore();
+        besideSquares();
         House.end();
     }
 
@@ -245,5 +246,34 @@ public final class EdgeRoundingTest {
         shaped(2, "99.91", 4, 4, "9995 3");
         BigInteger nines = House.ten(1000).subtract(BigInteger.ONE);
         shaped(1, nines + "E-3", 999, 4, House.ten(998) + " 1");
+    }
+
+    /** What stands far behind decides, though the first figures are those of a square. */
+    private static void besideSquares() {
+        House.sentence("the square root of a, to the precision n");
+        String zeros = new String(new char[997]).replace('\0', '0');
+        String above = "4." + zeros + "1";
+        String below = "3.9" + zeros.replace('0', '9');
+        String[][] want = {
+            // by mode: above and below a square, to one figure and to three
+            {"3 0", "2 0", "201 2", "200 2"}, {"2 0", "1 0", "200 2", "199 2"}, {"3 0", "2 0", "201 2", "200 2"}, {"2 0", "1 0", "200 2", "199 2"},
+            {"2 0", "2 0", "200 2", "200 2"}, {"2 0", "2 0", "200 2", "200 2"}, {"2 0", "2 0", "200 2", "200 2"}, {null, null, null, null},
+        };
+        for (int mode = 0; mode <= 7; mode++) {
+            shaped(2, above, 1, mode, want[mode][0]);
+            shaped(2, below, 1, mode, want[mode][1]);
+            shaped(2, above, 3, mode, want[mode][2]);
+            shaped(2, below, 3, mode, want[mode][3]);
+            shaped(2, "4." + zeros + "0", 1, mode, "2 0");
+            shaped(2, "4E+9998", 1, mode, "2 -4999");
+            shaped(2, "4E-9998", 1, mode, "2 4999");
+        }
+        shaped(2, "6.25" + zeros.substring(3) + "1", 1, 5, "3 0");
+        shaped(2, "6.25" + zeros.substring(3) + "1", 1, 6, "3 0");
+        shaped(2, "6.24" + zeros.substring(3).replace('0', '9') + "9", 1, 4, "2 0");
+        shaped(2, "6.25", 1, 4, "3 0");
+        shaped(2, "6.25", 1, 5, "2 0");
+        shaped(2, "6.25", 1, 6, "2 0");
+        shaped(2, "12.25", 1, 6, "4 0");
     }
 }
