@@ -5,6 +5,7 @@ import java.math.BigInteger;
 public final class EdgeFloatPrintTest {
     public static void main(String[] args) {
         leastLength();
+        halfWay();
         atLeastTwo();
         nearest();
         evenOfTwo();
@@ -65,6 +66,25 @@ public final class EdgeFloatPrintTest {
         shortest(3, 0x007fffffL, 11754942, -45);
         shortest(3, 0x4b800000L, 16777216, 0);
         shortest(3, 0x4b800001L, 16777218, 0);
+    }
+
+    /** Steps of 4: a decimal just half way to the next float rounds to the even one of the two. */
+    private static void halfWay() {
+        House.sentence("Let R be the decimals that round to x");
+        long wide = 18014398509481984L;
+        shortest(2, Double.doubleToRawLongBits(wide + 4 * 1), 18014398509481988L, 0);
+        shortest(2, Double.doubleToRawLongBits(wide + 4 * 6), 1801439850948201L, 1);
+        shortest(2, Double.doubleToRawLongBits(wide + 4 * 7), 18014398509482012L, 0);
+        shortest(2, Double.doubleToRawLongBits(wide + 4 * 2), 1801439850948199L, 1);
+        long narrow = 33554432;
+        shortest(3, Float.floatToRawIntBits(narrow + 4 * 9), 33554468, 0);
+        shortest(3, Float.floatToRawIntBits(narrow + 4 * 4), 3355445, 1);
+        shortest(3, Float.floatToRawIntBits(narrow + 4 * 5), 33554452, 0);
+        shortest(3, Float.floatToRawIntBits(narrow + 4 * 10), 3355447, 1);
+        for (int k = 1; k < 60; k++) {
+            checkNearest(2, Double.doubleToRawLongBits(wide + 4 * k), BigDecimal.valueOf(wide + 4 * k));
+            checkNearest(3, Float.floatToRawIntBits(narrow + 4 * k), BigDecimal.valueOf(narrow + 4 * k));
+        }
     }
 
     private static void atLeastTwo() {

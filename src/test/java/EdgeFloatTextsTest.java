@@ -10,6 +10,7 @@ public final class EdgeFloatTextsTest {
         hexadecimalDigits();
         hexadecimalExponents();
         whatTheySay();
+        manyFigures();
         zeros();
         noNumbers();
         House.end();
@@ -105,6 +106,12 @@ public final class EdgeFloatTextsTest {
         reads("5e-9999999999999999999999999999", 0);
         reads("5e18446744073709551617", Double.POSITIVE_INFINITY);
         reads("5e-18446744073709551617", 0);
+        for (String far : new String[] {"99999", "2147483646", "2147483647", "2147483648", "4294967295", "4294967296", "9223372036854775807", "9223372036854775808"}) {
+            reads("5e" + far, Double.POSITIVE_INFINITY);
+            reads("5e-" + far, 0);
+            reads("-5e" + far, Double.NEGATIVE_INFINITY);
+            reads("-5e-" + far, -0.0);
+        }
         reads("5e4294967297", Double.POSITIVE_INFINITY);
         reads("5e-4294967297", 0);
         reads("5e" + new String(new char[4000]).replace('\0', '0') + "1", 50);
@@ -175,6 +182,36 @@ public final class EdgeFloatTextsTest {
         reads("0x1" + zeros + "p-15600", 1);
         reads(zeros + "5", 5);
         reads("5." + zeros, 5);
+    }
+
+    /** One figure far behind decides between two floats, wherever it stands and whatever stands behind it. */
+    private static void manyFigures() {
+        House.sentence("It is read as what that rounds to");
+        String zeros = new String(new char[3000]).replace('\0', '0');
+        House h = new House();
+        for (int far : new int[] {1, 40, 600, 782, 783, 784, 785, 799, 800, 801, 1500, 3000}) {
+            for (int behind : new int[] {0, 1, 9, 800}) {
+                String tail = zeros.substring(0, far) + "1" + zeros.substring(0, behind);
+                wide(h, "9007199254740993." + tail, 9007199254740994.0);
+                wide(h, "-9007199254740993." + tail, -9007199254740994.0);
+                wide(h, "9007199254740993" + tail + "e-" + tail.length(), 9007199254740994.0);
+                wide(h, "0x1.00000000000008" + tail + "p0", 1.0000000000000002);
+                wide(h, "0x1000000000000.08" + tail + "p4", 0x1.0000000000001p52);
+            }
+            wide(h, "9007199254740993." + zeros.substring(0, far), 9007199254740992.0);
+            wide(h, "0x1.00000000000008" + zeros.substring(0, far) + "p0", 1.0);
+        }
+        String nines = zeros.replace('0', '9');
+        for (int before : new int[] {0, 1, 800, 1900}) {
+            wide(h, zeros.substring(0, before) + "1" + nines.substring(0, 2149) + "e-2149", 2.0);
+            wide(h, zeros.substring(0, before) + "." + zeros.substring(0, 7) + "1" + nines.substring(0, 2100) + "e8", 2.0);
+            wide(h, "0x" + zeros.substring(0, before) + "1" + zeros.substring(0, 2000) + "p-8000", 1.0);
+        }
+    }
+
+    private static void wide(House h, String text, double want) {
+        House.due("wide " + text, h.reads(2, 1, 10, text), true);
+        House.due("wide " + text + " is", Long.toHexString(h.x.told(2, 1, 0)), Long.toHexString(Double.doubleToRawLongBits(want)));
     }
 
     private static void zeros() {

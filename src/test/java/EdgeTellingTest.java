@@ -150,6 +150,7 @@ public final class EdgeTellingTest {
             h.x.put((int) row[0], 4, row[1]);
             for (int what = 0; what < 3; what++) {
                 House.due("told " + what + " of " + Long.toHexString(row[1]), h.x.told((int) row[0], 4, what), row[1 + what]);
+                House.due("told " + what + " of 0 behind it", h.x.told((int) row[0], 0, what), 0);
             }
         }
     }
