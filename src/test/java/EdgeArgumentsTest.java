@@ -14,6 +14,7 @@ public final class EdgeArgumentsTest {
         decimalScales();
         texts64();
         allGo();
+        oneAfterAnother();
         copies();
         howMany();
         otherKinds();
@@ -249,6 +250,23 @@ public final class EdgeArgumentsTest {
         Twins.refuses("one less", House.ARITHMETIC, Twins.furnished(h -> h.setWhole(1, House.two(63).negate().subtract(java.math.BigInteger.ONE))), x -> x.argument(0, 1));
         Twins.refuses("a number and a scale", House.ARITHMETIC, Twins.furnished(h -> h.setDecimal(1, new BigDecimal(House.two(63), 41))), x -> x.argument(1, 1));
         Twins.refuses("a value that is whole, with a scale below 0", House.ARITHMETIC, Twins.furnished(h -> h.setDecimal(1, new BigDecimal("1E+1"))), x -> x.argument(1, 1));
+    }
+
+    /** What an argument was before all went does not count for the one that has its number then. */
+    private static void oneAfterAnother() {
+        House.sentence("For 8 all arguments go.");
+        Object[] kinds = {null, true, false, 'c', -7, 0, "old text", "", new BigDecimal("-0.25"), new BigDecimal("12")};
+        for (Object before : kinds) {
+            for (Object after : kinds) {
+                House h = Formats.with(before, before);
+                h.x.argument(8, 0);
+                Formats.add(h, after);
+                House fresh = Formats.with(after);
+                String what = after + " behind " + before;
+                House.due(what, Twins.arguments(h), Twins.arguments(fresh));
+                House.due(what + " as a text", Formats.with(after).formatted("%s"), String.valueOf(after));
+            }
+        }
     }
 
     /** An argument is what the register had when it came. */
