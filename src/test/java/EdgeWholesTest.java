@@ -16,6 +16,7 @@ public final class EdgeWholesTest {
         sizeOfWhatIsRead();
         sizeOfWhatIsConverted();
         quotientAndRest();
+        quotientByHardDivisors();
         modulo();
         bits();
         digitsOfEachBase();
@@ -198,6 +199,38 @@ public final class EdgeWholesTest {
         whole(4, of(5), BigInteger.ZERO, null);
         whole(3, BigInteger.ZERO, BigInteger.ZERO, null);
         whole(4, BigInteger.ZERO, BigInteger.ZERO, null);
+    }
+
+    /** Parts of all ones, or of one bit alone, at which a guess of a figure of the quotient is farthest off. */
+    private static void quotientByHardDivisors() {
+        House.sentence("The QUOTIENT of a and b, b not 0, is a divided by b, rounded towards 0; the REST is a less b times the quotient.");
+        java.util.Random random = new java.util.Random(31);
+        for (int part : new int[] {31, 32, 62}) {
+            for (int i = 0; i < 1000; i++) {
+                BigInteger b = hard(random, part, 1 + i % 4).add(ONE);
+                BigInteger quotient = hard(random, part, 1 + i % 3);
+                BigInteger rest = i % 5 == 0 ? BigInteger.ZERO : i % 5 == 1 ? b.subtract(ONE) : hard(random, part, 3).mod(b);
+                BigInteger a = b.multiply(quotient).add(rest);
+                House h = new House();
+                h.reads(0, 1, 36, a.toString(36));
+                h.reads(0, 2, 36, b.toString(36));
+                h.x.whole(3, 1, 2, 3);
+                h.x.whole(4, 1, 2, 4);
+                House.due("the quotient of " + a + " and " + b, h.printed(0, 3, 36), quotient.toString(36));
+                House.due("the rest of " + a + " and " + b, h.printed(0, 4, 36), rest.toString(36));
+            }
+        }
+    }
+
+    private static BigInteger hard(java.util.Random random, int part, int parts) {
+        BigInteger number = BigInteger.ZERO;
+        BigInteger most = House.two(part).subtract(ONE);
+        BigInteger half = House.two(part - 1);
+        BigInteger[] choice = {most, most, half, half, BigInteger.ZERO, ONE, most.subtract(ONE), half.subtract(ONE), half.add(ONE)};
+        for (int i = 0; i < parts; i++) {
+            number = number.shiftLeft(part).add(choice[random.nextInt(choice.length)]);
+        }
+        return number;
     }
 
     private static void modulo() {
