@@ -150,6 +150,14 @@ public final class EdgeWholeCallsTest {
         whole(7, of(7), of(9), of(4));
         whole(7, MOST, MOST, null);
         whole(7, of(0), MOST, null);
+        for (int bits : new int[] {31, 32, 62, 63, 64, 93, 1000}) {
+            BigInteger both = House.two(bits).add(ONE);
+            whole(7, both, both.multiply(of(3)), null);
+            whole(7, both.multiply(of(2)), both.multiply(of(3)), null);
+            whole(7, both.negate(), both.multiply(of(2)), null);
+            power(both, of(-1), both.multiply(of(3)), null);
+            whole(7, both, both.add(ONE), both);
+        }
         whole(7, House.two(2046), House.two(2047), null);
         whole(7, House.two(2047).subtract(ONE), House.two(2047), House.two(2047).subtract(ONE));
     }
