@@ -9,6 +9,7 @@ public final class EdgeFloatTextsTest {
         endings();
         hexadecimalDigits();
         hexadecimalExponents();
+        wrappedExponents();
         whatTheySay();
         manyFigures();
         zeros();
@@ -165,6 +166,24 @@ public final class EdgeFloatTextsTest {
         reads("0x1p4294967297", Double.POSITIVE_INFINITY);
         reads("0x1p-4294967297", 0);
         readsNot("0x1", "0x1.", "0x1.8", "0x1p", "0x1p+", "0x1p-", "0x1p++1", "0x1p1.", "0x1p1.0", "0x1pa", "0x1p1a", "0x1pp1", "0x1e1", "0x1p1p1", "0x1p1e1", "0x1q1", "0x1p+d");
+    }
+
+    /** Exponents that would look near to a program that keeps too few of their bits. */
+    private static void wrappedExponents() {
+        House.sentence("and p or P, perhaps a sign, and one or more digits 0 .. 9");
+        House h = new House();
+        for (long wrap : new long[] {1L << 31, 1L << 32, 1L << 33}) {
+            for (long near : new long[] {-1100, -1075, -1074, -1054, -1022, -52, -1, 0, 1, 20, 52, 100, 1000, 1022, 1054, 1074, 1075, 1100}) {
+                wide(h, "0x1p" + (wrap + near), Double.POSITIVE_INFINITY);
+                wide(h, "0x1p-" + (wrap + near), 0.0);
+                wide(h, "-0x1.8p-" + (wrap + near), -0.0);
+                wide(h, "0x0p" + (wrap + near), 0.0);
+                wide(h, "1e" + (wrap + near), Double.POSITIVE_INFINITY);
+                wide(h, "1e-" + (wrap + near), 0.0);
+                wide(h, "-1.5e-" + (wrap + near), -0.0);
+                wide(h, "-0e" + (wrap + near), -0.0);
+            }
+        }
     }
 
     private static void whatTheySay() {
